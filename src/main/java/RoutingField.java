@@ -1964,6 +1964,8 @@ public final class RoutingField {
         final int[] counts = new int[COUNTS];
         private int updateAt;
         private int triggerAt = NONE;
+        // No route's time is over before this one: most ticks need not look at them.
+        private int nextDeadline = 0;
 
         Router(RoutingField field, String name, int number) {
             this.field = field;
@@ -2005,17 +2007,20 @@ public final class RoutingField {
         private void startTimeout(Route route) {
             route.since = field.time;
             route.timeout = timers[TIMEOUT];
-            route.deadline = field.time + timers[TIMEOUT];
+            startDeadline(route, timers[TIMEOUT]);
         }
 
-        private void startGarbage(Route route) {
-            route.deadline = field.time + timers[GARBAGE];
+        private void startDeadline(Route route, int ticks) {
+            route.deadline = field.time + ticks;
+            if (route.deadline < nextDeadline) {
+                nextDeadline = route.deadline;
+            }
         }
 
         private void die(Route route) {
             if (route.metric < DEAD) {
                 route.metric = DEAD;
-                startGarbage(route);
+                startDeadline(route, timers[GARBAGE]);
                 markChanged(route);
             }
         }
@@ -2046,10 +2051,10 @@ public final class RoutingField {
             if (route == null) {
                 route = table.add(prefix, 0, DEAD);
             }
-            boolean differs;
-            if (own == null) {
+            boolean differs = false;
+            if (port != null) {
                 differs = route.becomeOwn(CONNECTED, port.cost, 0, port);
-            } else {
+            } else if (own != null) {
                 differs = route.becomeOwn(STATIC, own.metric, own.tag, null);
             }
             if (differs) {
@@ -2124,6 +2129,10 @@ public final class RoutingField {
         }
 
         private void age() {
+            if (field.time < nextDeadline) {
+                return;
+            }
+            nextDeadline = LAST_TIME + 1;
             int all = table.total;
             int at = 0;
             for (int n = 0; n < all; n++) {
@@ -2135,6 +2144,9 @@ public final class RoutingField {
                 }
                 if (over) {
                     die(route);
+                }
+                if (route.kind == LEARNED) {
+                    nextDeadline = Math.min(nextDeadline, route.deadline);
                 }
                 at++;
             }
@@ -2301,7 +2313,11 @@ public final class RoutingField {
         /** Sends the draft on an interface: to an address, or to all when it is null. */
         private void sendDraft(Port port, Prefix target) {
             Datagram draft = field.draft;
-            draft.source.copy(port.addressOf(draft.family));
+            Prefix own = port.addressOf(draft.family);
+            if (own == null) {
+                return;
+            }
+            draft.source.copy(own);
             draft.source.length = Prefix.bitsOf(draft.family);
             draft.toAll = target == null;
             if (target != null) {
@@ -2495,7 +2511,7 @@ public final class RoutingField {
             route.port = port;
             route.tag = datagram.tagAt(at);
             if (metric == DEAD) {
-                startGarbage(route);
+                startDeadline(route, timers[GARBAGE]);
             } else {
                 startTimeout(route);
             }
