@@ -450,7 +450,9 @@ public final class RoutingField {
 
     private void takeOut(int at) {
         flightTotal--;
-        System.arraycopy(flights, at + 1, flights, at, flightTotal - at);
+        for (int i = at; i < flightTotal; i++) {
+            flights[i] = flights[i + 1];
+        }
     }
 
     /** The least sum from a router to the prefix that stands in entry. */
@@ -1896,14 +1898,18 @@ public final class RoutingField {
             int at = placeOf(prefix);
             if (total >= rows.length) {
                 Route[] wider = new Route[rows.length * 2];
-                System.arraycopy(rows, 0, wider, 0, total);
+                for (int i = 0; i < total; i++) {
+                    wider[i] = rows[i];
+                }
                 rows = wider;
             }
             Route row = rows[total];
             if (row == null) {
                 row = new Route();
             }
-            System.arraycopy(rows, at, rows, at + 1, total - at);
+            for (int i = total; i > at; i--) {
+                rows[i] = rows[i - 1];
+            }
             rows[at] = row;
             total++;
             row.begin(prefix, tag, metric);
@@ -1916,7 +1922,9 @@ public final class RoutingField {
             }
             Route row = rows[at];
             total--;
-            System.arraycopy(rows, at + 1, rows, at, total - at);
+            for (int i = at; i < total; i++) {
+                rows[i] = rows[i + 1];
+            }
             rows[total] = row;
         }
 

@@ -68,8 +68,12 @@ public final class ConfigTest {
         Probe.due("as at first", "link a 1 jitter 0 mtu 576\nrouter x\ntimers x 30 180 120\n"
                 + "join x a 0.0.0.0/0 cost 1 split poison\njoin x a ::1/128\nredistribute x connected off tag 3\n",
                 p.config());
-        p.setUp("redistribute x connected own", "redistribute x static own tag 0");
-        Probe.due("own with a tag", true, p.config().endsWith("::1/128\nredistribute x static own tag 0\n"));
+        p.setUp("redistribute x connected own", "redistribute x static own tag 0", "link b 1", "join x b 10.0.1.1/24",
+                "key x b 4 sha w 5 9", "join x b fd00::1/64 md5 5 v", "default x b 1");
+        Probe.due("keys stay as told", true, p.config().contains("join x b fd00::1/64\nkey x b 4 sha w 5 9\n"
+                + "key x b 5 md5 v 0 99999\ndefault x b 1\n"));
+        p.setUp("default x b off");
+        Probe.due("own with a tag", true, p.config().endsWith(" 99999\nredistribute x static own tag 0\n"));
     }
 
     /** Fields of many lines: what config writes is read without a fault and written again the same. */
@@ -99,32 +103,29 @@ public final class ConfigTest {
     /** So much can't be fed in 512 calls; it is the only way to come to the bound. */
     private static void tooLong() {
         Probe p = new Probe();
-        String last = "1111:2222:3333:4444:5555:6666:7777:";
         for (int r = 0; r < 6; r++) {
             p.setUp("router abcdefghijk" + r);
         }
-        int r = 0;
-        int i = 0;
-        String line = "filter abcdefghijk0 in " + last + "1000/128 deny";
-        while (p.field.config() + line.length() + 1 <= 40000) {
-            p.setUp(line);
-            i++;
-            r = i / 64;
-            if (r >= 6) {
-                r = (i - 384) / 32;
-                line = "static abcdefghijk" + r + " " + last + (1000 + i) + "/128 15 tag 65535";
-            } else {
-                line = "filter abcdefghijk" + r + (i % 2 == 0 ? " in " : " out ") + last + (1000 + i) + "/128 permit";
-            }
+        for (int i = 0; i < 6 * 96 && p.field.config() < 39900; i++) {
+            String name = "abcdefghijk" + i / 96;
+            String prefix = "1111:2222:3333:4444:5555:6666:7777:" + (1000 + i) + "/128";
+            p.setUp(i % 3 == 0 ? "static " + name + " " + prefix + " 9 tag 10000"
+                    : "filter " + name + (i % 3 == 1 ? " in " : " out ") + prefix + " permit");
         }
         int room = 40000 - p.field.config();
-        int length = p.field.config();
-        p.setUp("link z 1");
-        Probe.due("a short line more", room >= 26 ? length + 26 : -1, p.field.config());
+        // A line of a list has 17 to 28 bytes, by its name.
+        for (; room > 56; room -= 28) {
+            p.setUp("list aaaaaaaaaaaa deny ::/0");
+        }
+        int first = Math.min(28, room - 17);
+        p.setUp("list " + "b".repeat(first - 16) + " deny ::/0", "list " + "c".repeat(room - first - 16) + " deny ::/0");
+        Probe.due("40000 bytes", 40000, p.field.config());
         p.field.show(0, 1);
-        p.setUp(line);
-        Probe.due("more than 40000", -1, p.field.config());
+        p.setUp("static abcdefghijk0 1111:2222:3333:4444:5555:6666:7777:1000/128 10 tag 10000");
+        Probe.due("40001 bytes", -1, p.field.config());
         Probe.due("the text stays", "", p.text(0));
+        p.setUp("static abcdefghijk0 1111:2222:3333:4444:5555:6666:7777:1000/128 1 tag 10000");
+        Probe.due("40000 bytes again", 40000, p.field.config());
     }
 
     private static String prefix(Random random) {

@@ -10,6 +10,8 @@ public final class HearTest {
         ownRoutes();
         fullTable();
         listsIn();
+        longPrefixes();
+        zeroNetwork();
         Probe.finish();
     }
 
@@ -213,6 +215,8 @@ public final class HearTest {
         Probe.due("learned now", "10.5.0.0/16 3 via 10.0.0.2 a", p.way(0, "10.5.0.1"));
         p.setUp("static x 10.5.0.0/16 9");
         Probe.due("static is before learned", "10.5.0.0/16 9 static", p.way(0, "10.5.0.1"));
+        p.setUp("nostatic x 10.5.0.0/16");
+        Probe.due("without the way it had", true, p.show(0, 0).contains("10.5.0.0/16 16 via 0.0.0.0 -\n"));
         p.setUp("static x 10.0.1.0/24 1");
         Probe.due("connected is before static", "10.0.1.0/24 1 direct b", p.way(0, "10.0.1.1"));
         p.setUp("link c 1", "join x c 10.0.1.9/24 cost 5");
@@ -242,6 +246,48 @@ public final class HearTest {
         Probe.due("family 6 has room", 62, p.field.routes(0));
         p.setUp("static x 13.0.0.0/8 1");
         Probe.due("what is its own comes", 63, p.field.routes(0));
+    }
+
+    /** Prefixes of more than 64 bits, and of a single one. */
+    private static void longPrefixes() {
+        Probe p = made("filter x in 1:2:3:4:5::/80 deny", "filter x in 1:2:3:4:6::/79 deny", "filter x in 1:2:3:4:0:8000::/81 deny",
+                "filter x in 9:9:9:9:9:9:9:9/128 deny", "filter x in 128.0.0.0/1 deny");
+        hear(p, "fd00::2", Wire.entry("1:2:3:4:5::/80", 0, 1), Wire.entry("1:2:3:4:5:1::/96", 0, 1),
+                Wire.entry("1:2:3:4:7::/80", 0, 1), Wire.entry("1:2:3:4:0:8000::/81", 0, 1),
+                Wire.entry("9:9:9:9:9:9:9:9/128", 0, 1));
+        Probe.due("all are denied", 5, p.field.count(0, 4));
+        hear(p, "fd00::2", Wire.entry("1:2:3:4:4::/80", 0, 1), Wire.entry("1:2:3:4:8::/80", 0, 1),
+                Wire.entry("1:2:3:4::/81", 0, 1), Wire.entry("1:2:3:4::/64", 0, 1), Wire.entry("1:2:3:5:5::/80", 0, 1),
+                Wire.entry("9:9:9:9:9:9:9:8/128", 0, 1), Wire.entry("9:9:9:8:9:9:9:9/128", 0, 1));
+        Probe.due("none is", 5, p.field.count(0, 4));
+        Probe.due("routes", 3 + 7, p.field.routes(0));
+        Probe.due("way in 81 bits", "1:2:3:4::/81 3 via fd00::2 a", p.way(0, "1:2:3:4:0:7fff:ffff:ffff"));
+        Probe.due("not in them", "1:2:3:4::/64 3 via fd00::2 a", p.way(0, "1:2:3:4:0:8000::"));
+        Probe.due("way in 128 bits", "9:9:9:9:9:9:9:8/128 3 via fd00::2 a", p.way(0, "9:9:9:9:9:9:9:8"));
+        Probe.due("one bit off", "NONE", p.way(0, "9:9:9:9:9:9:9:9"));
+        Probe.due("one of the first off", "NONE", p.way(0, "9:9:9:0:9:9:9:8"));
+        hear(p, "10.0.0.2", Wire.entry("128.0.0.0/8", 0, 1), Wire.entry("127.0.0.0/7", 0, 1), Wire.entry("64.0.0.0/8", 0, 1));
+        Probe.due("one bit alone", 7, p.field.count(0, 4));
+        Probe.due("the other half", "64.0.0.0/8 3 via 10.0.0.2 a", p.way(0, "64.0.0.1"));
+        p.setUp("join x b fd01:1:1:1:1::1/80");
+        p.put(1, 6, 521, 255, Wire.address("fd01:1:1:1:2::2") + Wire.RESPONSE_6 + Wire.entry("3::/16", 0, 1));
+        p.put(1, 6, 521, 255, Wire.address("fd01:1:1:1:1::2") + Wire.RESPONSE_6 + Wire.entry("4::/16", 0, 1));
+        p.field.ticks(1);
+        Probe.due("a network of 80 bits", 1, p.field.count(0, 1));
+        Probe.due("and a source in it", "4::/16 2 via fd01:1:1:1:1::2 b", p.way(0, "4::"));
+    }
+
+    /** A next hop of 0 is none, also where the network covers it. */
+    private static void zeroNetwork() {
+        Probe p = new Probe();
+        p.setUp("link a 1", "router x", "join x a 0.0.0.1/24", "join x a ::1/64");
+        p.field.ticks(3);
+        p.put(0, 4, 520, 255, Wire.address("0.0.0.9") + Wire.RESPONSE_4 + Wire.entry("10.0.0.0/8", 0, 1));
+        p.put(0, 6, 521, 255, Wire.address("::9") + Wire.RESPONSE_6 + Wire.nextHop("::8") + Wire.nextHop("::")
+                + Wire.entry("1::/16", 0, 1));
+        p.field.ticks(1);
+        Probe.due("family 4", "10.0.0.0/8 2 via 0.0.0.9 a", p.way(0, "10.0.0.1"));
+        Probe.due("family 6", "1::/16 2 via ::9 a", p.way(0, "1::1"));
     }
 
     private static void listsIn() {

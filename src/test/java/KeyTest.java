@@ -115,6 +115,8 @@ public final class KeyTest {
         hears("of 27 entries", "password abc", true, Wire.RESPONSE_4 + Wire.password("abc") + ENTRY.repeat(27));
         hears("longer", "password abc", false, Wire.RESPONSE_4 + Wire.password("abcd") + ENTRY);
         hears("shorter", "password abc", false, Wire.RESPONSE_4 + Wire.password("ab") + ENTRY);
+        hears("another", "password abc", false, Wire.RESPONSE_4 + Wire.password("xbc") + ENTRY);
+        hears("its last byte", "password abc", false, with(right, 23, "01"));
         hears("none", "password abc", false, Wire.RESPONSE_4 + ENTRY);
         hears("another sort", "password abc", false, with(right, 7, "03"));
         hears("no key entry", "password abc", false, with(right, 4, "fffe"));
@@ -138,6 +140,8 @@ public final class KeyTest {
         hears("N of the other sort", keys, false, Wire.md5(Wire.RESPONSE_4, 6, "def", 0, ENTRY));
         hears("an entry changed", keys, false, with(right, 24 + 19, "02"));
         hears("the sum changed", keys, false, with(right, 24 + 20 + 19, right.endsWith("00") ? "01" : "00"));
+        hears("its first byte changed", keys, false, with(right, 24 + 20 + 4, "00").equals(right)
+                ? with(right, 24 + 20 + 4, "01") : with(right, 24 + 20 + 4, "00"));
         hears("no key", keys, false, Wire.RESPONSE_4 + ENTRY);
         hears("the number changed", keys, false, with(right, 15, "01"));
         hears("a size that is wrong", keys, false, resummed(with(right, 9, "40")));
@@ -207,12 +211,14 @@ public final class KeyTest {
             Probe.due("many sources", 3, bad(p, "10.0.0." + i, 100 + i));
         }
         Probe.due("each has its own", 4, bad(p, "10.0.0.11", 110));
+        Probe.due("the first, too", 5, bad(p, "10.0.0.2", 0xfffffffeL));
+        Probe.due("and the third", 6, bad(p, "10.0.0.4", 103));
         p.field.run(0, false);
         p.field.run(0, true);
-        Probe.due("stops or not", 5, bad(p, "10.0.0.11", 110));
+        Probe.due("stops or not", 7, bad(p, "10.0.0.11", 110));
         p.setUp("nokey x a", "key x a 1 md5 one 0 99999");
-        Probe.due("since the interface was there", 6, bad(p, "10.0.0.11", 110));
-        Probe.due("111", 6, bad(p, "10.0.0.11", 111));
+        Probe.due("since the interface was there", 8, bad(p, "10.0.0.11", 110));
+        Probe.due("111", 8, bad(p, "10.0.0.11", 111));
     }
 
     private static void goodOnly() {
@@ -222,6 +228,10 @@ public final class KeyTest {
         Probe.due("at 5", 1, bad(p, "10.0.0.2", 0));
         Probe.due("at 6", 1, bad(p, "10.0.0.2", 0));
         Probe.due("at 7", 2, bad(p, "10.0.0.2", 0));
+        p.setUp("key x a 2 md5 two 0 99", "key x a 3 md5 three 0 99", "key x a 4 md5 four 0 99");
+        p.put(0, 4, 520, 255, TWO + Wire.md5(Wire.RESPONSE_4, 5, "five", 9, ENTRY));
+        p.field.ticks(1);
+        Probe.due("N of none of four", 3, p.field.count(0, 3));
     }
 
     private static void familySix() {

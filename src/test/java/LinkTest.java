@@ -5,6 +5,9 @@ public final class LinkTest {
         downAndUp();
         dueOnes();
         loses();
+        otherLinks();
+        askedOnUp();
+        dyingOnes();
         order();
         Probe.finish();
     }
@@ -106,6 +109,60 @@ public final class LinkTest {
         p.setUp("static x 10.8.0.0/16 1");
         p.field.ticks(6);
         Probe.due("0 in place of what was told", "10.8.0.0/16 2 via 10.0.0.1 a", p.way(1, "10.8.0.1"));
+    }
+
+    /** Only what is on the link, or was heard on it, is lost. */
+    private static void otherLinks() {
+        Probe p = new Probe();
+        p.setUp("link a 3", "link b 3", "router x", "join x a 10.0.0.1/24", "join x b 10.0.1.1/24", "timers x 1000 500 50");
+        p.field.ticks(3);
+        p.put(1, 4, 520, 255, Wire.address("10.0.1.2") + Wire.RESPONSE_4 + Wire.entry("7.0.0.0/8", 0, 1));
+        p.put(0, 4, 520, 255, Wire.address("10.0.0.2") + Wire.RESPONSE_4 + Wire.entry("8.0.0.0/8", 0, 1));
+        p.put(1, 4, 520, 255, Wire.address("10.0.1.2") + Wire.RESPONSE_4 + Wire.entry("9.0.0.0/8", 0, 1));
+        p.field.link(0, false);
+        p.field.ticks(3);
+        Probe.due("those on b came", "7.0.0.0/8 2 via 10.0.1.2 b\n9.0.0.0/8 2 via 10.0.1.2 b\n"
+                + "10.0.0.0/24 16 via 0.0.0.0 -\n10.0.1.0/24 1 direct b\n", p.show(0, 0));
+        p.field.link(0, true);
+        p.put(0, 4, 520, 255, Wire.address("10.0.0.2") + Wire.RESPONSE_4 + Wire.entry("6.0.0.0/8", 0, 1));
+        p.field.ticks(3);
+        p.field.link(0, false);
+        Probe.due("those heard on a die", "6.0.0.0/8 16 via 10.0.0.2 a\n7.0.0.0/8 2 via 10.0.1.2 b\n"
+                + "9.0.0.0/8 2 via 10.0.1.2 b\n10.0.0.0/24 16 via 0.0.0.0 -\n10.0.1.0/24 1 direct b\n", p.show(0, 0));
+    }
+
+    /** What is asked when a link comes up is answered, in both families. */
+    private static void askedOnUp() {
+        Probe p = new Probe();
+        p.setUp("link a 1", "router x", "router y", "join x a 10.0.0.1/24", "join x a fd00::1/64", "join y a 10.0.0.2/24",
+                "join y a fd00::2/64", "static y 11.0.0.0/8 1", "static y 11::/16 1", "timers x 1000 1000 10",
+                "timers y 1000 1000 10");
+        p.field.ticks(10);
+        p.field.link(0, false);
+        p.field.ticks(20);
+        Probe.due("all died", 0, p.field.routes(0));
+        p.field.link(0, true);
+        p.field.ticks(2);
+        Probe.due("all are back", 4, p.field.routes(0));
+        p.field.run(0, false);
+        p.field.ticks(20);
+        p.field.run(0, true);
+        p.field.ticks(2);
+        Probe.due("also behind a start", 4, p.field.routes(0));
+    }
+
+    /** To die is nothing for one that is dying; an interface in place of another is a change. */
+    private static void dyingOnes() {
+        Probe p = new Probe();
+        p.setUp("link a 1", "link b 1", "router x", "join x a 10.0.0.1/24", "join x b 10.0.0.2/24", "timers x 1000 5 50");
+        p.put(0, 4, 520, 255, Wire.address("10.0.0.9") + Wire.RESPONSE_4 + Wire.entry("9.0.0.0/8", 0, 1));
+        p.field.ticks(16);
+        Probe.due("it died at 6", "9.0.0.0/8 40\n10.0.0.0/24 -\n", p.show(0, 3));
+        int changes = p.field.count(0, 7);
+        p.field.link(0, false);
+        Probe.due("it is no change", "9.0.0.0/8 40\n10.0.0.0/24 - changed\n", p.show(0, 3));
+        Probe.due("the interface is", changes + 1, p.field.count(0, 7));
+        Probe.due("b's", "10.0.0.0/24 1 direct b", p.way(0, "10.0.0.1"));
     }
 
     /** Datagrams of one tick come in the order of their sending, also over links. */

@@ -48,7 +48,9 @@ public final class OracleTest {
         Probe.due("15", 15, p.oracle(0, "1::5"));
         p.setUp("static z 1::/16 10");
         Probe.due("more than 15", 16, p.oracle(0, "1::5"));
-        p.setUp("static z 10.0.1.0/24 1");
+        p.setUp("static x 10.0.1.0/24 1");
+        Probe.due("its own way to another's network", 1, p.oracle(0, "10.0.1.9"));
+        p.setUp("nostatic x 10.0.1.0/24", "static z 10.0.1.0/24 1");
         Probe.due("a connected one's cost first", 5, p.oracle(2, "10.0.1.9"));
         p.field.link(1, false);
         Probe.due("b is down: the static one", 1, p.oracle(2, "10.0.1.9"));

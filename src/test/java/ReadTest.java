@@ -3,6 +3,7 @@ public final class ReadTest {
     public static void main(String[] args) {
         lines();
         links();
+        allThere();
         routersAndJoins();
         joinOptions();
         keys();
@@ -70,6 +71,8 @@ public final class ReadTest {
         p.fault("link a 1x", 4);
         p.fault("link a 0000001", 4);
         p.fault("link a -1", 4);
+        p.fault("link a :", 4);
+        p.fault("link a /", 4);
         p.fault("link a 1 jitter 5", 4);
         p.fault("link a 1 mtu 83", 4);
         p.fault("link a 1 mtu 577", 4);
@@ -83,6 +86,31 @@ public final class ReadTest {
         p.fault("link n10 9", 4);
         p.fault("link n10 1", 6);
         p.fault("link a 1", 3);
+    }
+
+    /** Numbers of links and routers behind the last, when there are as many as may be. */
+    private static void allThere() {
+        Probe p = new Probe();
+        for (int i = 0; i < 10; i++) {
+            p.setUp("link l" + i + " 1");
+        }
+        for (int i = 0; i < 6; i++) {
+            p.setUp("router r" + i);
+        }
+        Probe.due("link 9", true, p.field.link(9, false));
+        Probe.due("link 10", false, p.field.link(10, false));
+        Probe.due("lose on 10", false, p.field.lose(10, 1));
+        Probe.due("seen on 10", -1, p.field.seen(10));
+        Probe.due("put on 10", false, p.put(10, 4, 520, 255, "0a000001"));
+        Probe.due("router 5", true, p.field.run(5, false));
+        Probe.due("router 6", false, p.field.run(6, false));
+        Probe.due("routes of 6", -1, p.field.routes(6));
+        Probe.due("count of 6", -1, p.field.count(6, 0));
+        Probe.due("show of 6", -1, p.field.show(6, 0));
+        Probe.due("way of 6", "NONE", p.way(6, "10.0.0.1"));
+        Probe.due("oracle of 6", -1, p.oracle(6, "10.0.0.1"));
+        Probe.due("the least number", false, p.field.link(Integer.MIN_VALUE, false));
+        Probe.due("the greatest number", false, p.field.run(Integer.MAX_VALUE, false));
     }
 
     private static void routersAndJoins() {
@@ -166,6 +194,7 @@ public final class ReadTest {
             p.fault("key x a " + i + " sha w 5 5", 0);
         }
         p.fault("key x a 4 md5 w 0 1", 6);
+        p.fault("key x a 3 sha w 0 0", 0);
         p.fault("key x a 3 md5 w 0 99999", 0);
         p.fault("nokey x", 2);
         p.fault("nokey x a b", 2);
@@ -288,6 +317,7 @@ public final class ReadTest {
         p.fault("default x a 0", 4);
         p.fault("default x a 16", 4);
         p.fault("default x a 15 only", 0);
+        p.fault("default x a 1", 0);
         p.fault("default x a off", 0);
     }
 
@@ -320,18 +350,21 @@ public final class ReadTest {
     private static void addresses() {
         String[] wrong = {"10.0.0", "10.0.0.0.0", "10.0.0.00", "01.0.0.0", "10.0.0.256", "10.0.0.1000", "10..0.0",
             ".10.0.0.0", "10.0.0.0.", "10.0.0.a", "", "1:2:3:4:5:6:7", "1:2:3:4:5:6:7:8:9", "1::2::3", ":::",
-            ":1:2:3:4:5:6:7:8", "1:2:3:4:5:6:7:8:", "1:2:3:4::5:6:7:8", "12345::", "g::", ":", "1:", "::1.2.3.4", "1: :2"};
+            ":1:2:3:4:5:6:7:8", "1:2:3:4:5:6:7:8:", "1:2:3:4::5:6:7:8", "12345::", "g::", "G::", "`::", "@::", "/::", ":", "1:", "::1:", "1:::2",
+            "::1.2.3.4", "1: :2", "1:2:3:4:5:6:7:8::", "::1:2:3:4:5:6:7:8", "10.0.0.:", "10.0.0./", "1;::"};
         Probe p = made();
         for (String one : wrong) {
             p.feed(one);
             Probe.due("oracle of " + one, RoutingField.NONE, p.field.oracle(0));
             p.fault("static x " + one.replace(" ", "") + "/0 1", 5);
+            p.fault("neighbor x a " + (one.isEmpty() ? "-" : one.replace(" ", "_")), 5);
         }
         String[] texts = {"1:2:3:4:5:6:7:8", "1:2:3:4:5:6:7:8", "0:0:0:0:0:0:0:0", "::", "::1", "::1",
             "1::", "1::", "FD00::00aB", "fd00::ab", "1:0:0:2:0:0:0:3", "1:0:0:2::3", "1:0:0:2:3:0:0:4", "1::2:3:0:0:4",
             "1:2:3:4:5:6:7::", "1:2:3:4:5:6:7:0", "::2:3:4:5:6:7:8", "0:2:3:4:5:6:7:8", "1::3:4:5:6:7:8",
             "1:0:3:4:5:6:7:8", "0:1:0:1:0:1:0:1", "0:1:0:1:0:1:0:1", "1:0:0:0:0:0:0:8", "1::8",
-            "255.0.10.1", "255.0.10.1", "0.0.0.0", "0.0.0.0"};
+            "::8000:1", "::8000:1", "1::ffff", "1::ffff", "8000::8000:0:0:0:0", "8000:0:0:8000::", "A:b:C:d:E:f:0:9",
+            "a:b:c:d:e:f:0:9", "255.0.10.1", "255.0.10.1", "0.0.0.0", "0.0.0.0"};
         for (int i = 0; i < texts.length; i += 2) {
             Probe q = new Probe();
             int bits = texts[i].contains(":") ? 128 : 32;
@@ -339,7 +372,7 @@ public final class ReadTest {
             Probe.due("text of " + texts[i], texts[i + 1] + "/" + bits + " 1 static\n", q.show(0, 0));
         }
         String[] lengths = {"10.0.0.0/08", "10.0.0.0/", "10.0.0.0", "10.0.0.0/33", "10.0.0.0/x", "10.0.0.0/8/8",
-            "10.0.0.0/-1", "::/129", "::/00", "10.0.0.0/6", "fd00::1/127", "0.0.0.1/0", "::1/0", "1:2:3:4:8000::/64"};
+            "10.0.0.0/-1", "10.0.0.0/:", "10.0.0.0/1/", "10.0.0.0/1000", "::/129", "::/00", "10.0.0.0/6", "fd00::1/127", "0.0.0.1/0", "::1/0", "1:2:3:4:8000::/64"};
         for (String one : lengths) {
             p.fault("static x " + one + " 1", 5);
         }

@@ -65,6 +65,10 @@ public final class RequestTest {
         Probe.due("one request", 1, p.field.count(0, 8));
         Probe.due("a single entry that is not for all", Wire.RESPONSE_4 + "0000" + "00".repeat(14) + "00000010",
                 asked(p, "10.0.0.2", Wire.REQUEST_4 + "0000" + "00".repeat(14) + "00000011"));
+        Probe.due("nor this one, of a prefix with metric 16", Wire.RESPONSE_4 + Wire.entry("10.5.0.0/16", 4, 3),
+                asked(p, "10.0.0.2", Wire.REQUEST_4 + Wire.entry("10.5.0.0/16", 4, 16)));
+        Probe.due("the metric has four bytes", Wire.RESPONSE_4 + Wire.entry("10.5.0.0/16", 4, 3),
+                asked(p, "10.0.0.2", Wire.REQUEST_4 + Wire.entry("10.5.0.0/16", 4, 0x01020304)));
         Probe.due("for all twice is none for all", Wire.RESPONSE_4 + Wire.ALL_4 + Wire.ALL_4,
                 asked(p, "10.0.0.2", Wire.REQUEST_4 + Wire.ALL_4 + Wire.ALL_4));
         p.setUp("nostatic x 10.5.0.0/16");
@@ -92,7 +96,17 @@ public final class RequestTest {
         Probe.due("keys anew, whatever M", Wire.sha(Wire.RESPONSE_4, 2, "two", 2, answer),
                 asked(p, "10.0.0.2", Wire.md5(Wire.REQUEST_4, 1, "one", 0, entries)));
         Probe.due("584 bytes", 584, p.field.seen(0));
-        Probe.due("for all with keys", Wire.sha(Wire.RESPONSE_4, 2, "two", 3, Wire.entry("10.5.0.0/16", 0, 3)),
+        p.setUp("router y", "join y a 10.0.0.2/24 md5 1 one sha 2 two");
+        p.field.ticks(5);
+        asked(p, "10.0.0.2", Wire.md5(Wire.REQUEST_4, 1, "one", 50, entries));
+        int bad = p.field.count(1, 2);
+        p.field.ticks(1);
+        Probe.due("which are 29 entries, a bad form", bad + 1, p.field.count(1, 2));
+        p = new Probe();
+        p.setUp("link a 1", "router x", "join x a 10.0.0.1/24 md5 1 one", "key x a 2 sha two 0 99999",
+                "static x 10.5.0.0/16 3");
+        p.field.ticks(6);
+        Probe.due("for all with keys", Wire.sha(Wire.RESPONSE_4, 2, "two", 2, Wire.entry("10.5.0.0/16", 0, 3)),
                 asked(p, "10.0.0.2", Wire.md5(Wire.REQUEST_4, 1, "one", 0, Wire.ALL_4)));
         p = new Probe();
         p.setUp("link a 1", "router x", "join x a 10.0.0.1/24 password pw", "static x 10.5.0.0/16 3");

@@ -5,6 +5,8 @@ public final class RunTest {
         stops();
         stopsQuietly();
         starts();
+        standsStill();
+        triggerIsForgotten();
         Probe.finish();
     }
 
@@ -66,6 +68,38 @@ public final class RunTest {
         p.field.run(0, false);
         Probe.due("three neighbors", sent + 3, p.field.count(0, 5));
         Probe.due("family 6 last", Wire.RESPONSE_6 + Wire.entry("fd00::/64", 0, 16), p.seen(0));
+    }
+
+    /** Lines told to a router that stands still, or about a link that is down, send nothing. */
+    private static void standsStill() {
+        Probe p = new Probe();
+        p.setUp("link a 1", "link b 1", "router x");
+        p.field.link(1, false);
+        p.setUp("join x b 10.0.1.1/24");
+        Probe.due("no request on b", 0, p.field.seen(1));
+        Probe.due("no route", 0, p.field.routes(0));
+        p.field.run(0, false);
+        p.setUp("join x a 10.0.0.1/24", "static x 10.5.0.0/16 1");
+        Probe.due("no request on a", 0, p.field.seen(0));
+        Probe.due("no routes", 0, p.field.routes(0));
+        p.setUp("nostatic x 10.5.0.0/16", "static x 10.6.0.0/16 1");
+        p.field.run(0, true);
+        Probe.due("routes then", "10.0.0.0/24 1 direct a\n10.6.0.0/16 1 static\n", p.show(0, 0));
+        Probe.due("a request on a", 24, p.field.seen(0));
+        Probe.due("none on b", 0, p.field.seen(1));
+        Probe.due("one sent", 1, p.field.count(0, 5));
+    }
+
+    private static void triggerIsForgotten() {
+        Probe p = new Probe();
+        p.setUp("router w", "router v", "router u", "router x", "static x 10.5.0.0/16 1");
+        p.field.ticks(3);
+        p.field.run(3, false);
+        p.field.run(3, true);
+        p.field.ticks(3);
+        Probe.due("the trigger of before", 0, p.field.count(3, 6));
+        p.field.ticks(1);
+        Probe.due("that of the start", 1, p.field.count(3, 6));
     }
 
     private static void starts() {

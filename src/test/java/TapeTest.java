@@ -32,6 +32,8 @@ public final class TapeTest {
         for (int i = 0; i < 204; i++) {
             q.field.feed(0x0a0a0a0a, 0x0a0a0a0a, 0x0a0a0a0a, 0x0a0a0a0a, 0x0a0a0a0a);
         }
+        Probe.due("end at 4077", true, q.field.end(4077));
+        Probe.due("feed up to 4097", false, q.field.feed(0, 0, 0, 0, 0));
         Probe.due("end at 4076", true, q.field.end(4076));
         Probe.due("feed up to 4096", true, q.field.feed(0x0a0a0a0a, 0x0a0a0a0a, 0x0a0a0a0a, 0x0a0a0a0a, 0x0a0a0a0a));
         Probe.due("end at 4096", true, q.field.end(4096));

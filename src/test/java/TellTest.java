@@ -61,6 +61,9 @@ public final class TellTest {
                 "redistribute x static 7"),
                 told(Wire.entry("10.0.1.0/24", 6, 5), Wire.entry("10.5.0.0/16", 0, 7), poison),
                 told(Wire.entry("10.0.0.0/24", 6, 5), Wire.entry("10.5.0.0/16", 0, 7), far));
+        due("metric 1", made("", "static x 10.5.0.0/16 3 tag 9", "redistribute x static 1 tag 2"),
+                told(Wire.entry("10.0.1.0/24", 0, 1), Wire.entry("10.5.0.0/16", 2, 1), poison),
+                told(Wire.entry("10.0.0.0/24", 0, 1), Wire.entry("10.5.0.0/16", 2, 1), far));
         due("own with a tag", made("", "static x 10.5.0.0/16 3 tag 9", "redistribute x static 7 tag 1",
                 "redistribute x static own tag 2", "redistribute x connected 3", "redistribute x connected own"),
                 told(Wire.entry("10.0.1.0/24", 0, 1), Wire.entry("10.5.0.0/16", 9, 3), poison),
@@ -129,6 +132,9 @@ public final class TellTest {
                 told(Wire.entry("0.0.0.0/0", 0, 6)));
         due("a summary of all", made("", "summary x a 0.0.0.0/0", "summary x b 0.0.0.0/0", "default x a 7"),
                 told(Wire.entry("0.0.0.0/0", 0, 7)), told(Wire.entry("0.0.0.0/0", 0, 1)));
+        due("of metric 1", made("", "static x 0.0.0.0/0 3", "default x a 1", "summary x b 0.0.0.0/0", "default x b 1"),
+                told(Wire.entry("0.0.0.0/0", 0, 1), Wire.entry("10.0.1.0/24", 0, 1), Wire.entry("12.0.0.0/8", 4, 16)),
+                told(Wire.entry("0.0.0.0/0", 0, 1)));
         due("off again", made("", "default x a 7 only", "default x a off"),
                 told(Wire.entry("10.0.1.0/24", 0, 1), Wire.entry("12.0.0.0/8", 4, 16)),
                 told(Wire.entry("10.0.0.0/24", 0, 1), far));
