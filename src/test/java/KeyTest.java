@@ -212,13 +212,15 @@ public final class KeyTest {
         }
         Probe.due("each has its own", 4, bad(p, "10.0.0.11", 110));
         Probe.due("the first, too", 5, bad(p, "10.0.0.2", 0xfffffffeL));
-        Probe.due("and the third", 6, bad(p, "10.0.0.4", 103));
+        for (int i = 4; i < 12; i++) {
+            Probe.due("and all others", 2 + i, bad(p, "10.0.0." + i, 99 + i));
+        }
         p.field.run(0, false);
         p.field.run(0, true);
-        Probe.due("stops or not", 7, bad(p, "10.0.0.11", 110));
+        Probe.due("stops or not", 14, bad(p, "10.0.0.11", 110));
         p.setUp("nokey x a", "key x a 1 md5 one 0 99999");
-        Probe.due("since the interface was there", 8, bad(p, "10.0.0.11", 110));
-        Probe.due("111", 8, bad(p, "10.0.0.11", 111));
+        Probe.due("since the interface was there", 15, bad(p, "10.0.0.11", 110));
+        Probe.due("111", 15, bad(p, "10.0.0.11", 111));
     }
 
     private static void goodOnly() {

@@ -115,7 +115,8 @@ public final class LinkTest {
     private static void otherLinks() {
         Probe p = new Probe();
         p.setUp("link a 3", "link b 3", "router x", "join x a 10.0.0.1/24", "join x b 10.0.1.1/24", "timers x 1000 500 50");
-        p.field.ticks(3);
+        p.field.ticks(6);
+        Probe.due("quiet", 0, p.field.flying());
         p.put(1, 4, 520, 255, Wire.address("10.0.1.2") + Wire.RESPONSE_4 + Wire.entry("7.0.0.0/8", 0, 1));
         p.put(0, 4, 520, 255, Wire.address("10.0.0.2") + Wire.RESPONSE_4 + Wire.entry("8.0.0.0/8", 0, 1));
         p.put(1, 4, 520, 255, Wire.address("10.0.1.2") + Wire.RESPONSE_4 + Wire.entry("9.0.0.0/8", 0, 1));

@@ -50,7 +50,9 @@ public final class OracleTest {
         Probe.due("more than 15", 16, p.oracle(0, "1::5"));
         p.setUp("static x 10.0.1.0/24 1");
         Probe.due("its own way to another's network", 1, p.oracle(0, "10.0.1.9"));
-        p.setUp("nostatic x 10.0.1.0/24", "static z 10.0.1.0/24 1");
+        p.setUp("nostatic x 10.0.1.0/24", "static z 10.0.1.0/24 1", "static z 10.0.0.0/24 2");
+        Probe.due("also when that came first", 2, p.oracle(2, "10.0.0.9"));
+        p.setUp("nostatic z 10.0.0.0/24");
         Probe.due("a connected one's cost first", 5, p.oracle(2, "10.0.1.9"));
         p.field.link(1, false);
         Probe.due("b is down: the static one", 1, p.oracle(2, "10.0.1.9"));

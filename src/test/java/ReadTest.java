@@ -214,6 +214,8 @@ public final class ReadTest {
         p.fault("static x 10.9.0.0/8 0", 5);
         p.fault("static x 10.9.0.0/16 0", 4);
         p.fault("static x 10.9.0.0/16 16", 4);
+        p.fault("static x 10.9.0.0/16 :", 4);
+        p.fault("static x 10.9.0.0/16 /", 4);
         p.fault("static x 10.9.0.0/16 1 tag 65536", 4);
         p.fault("nostatic x 10.9.0.0/16", 3);
         p.fault("static x 10.9.0.0/16 15 tag 65535", 0);
