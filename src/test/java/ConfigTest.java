@@ -103,6 +103,7 @@ public final class ConfigTest {
     /** So much can't be fed in 512 calls; it is the only way to come to the bound. */
     private static void tooLong() {
         Probe p = new Probe();
+        p.field.allowMoreCalls();
         for (int r = 0; r < 6; r++) {
             p.setUp("router abcdefghijk" + r);
         }

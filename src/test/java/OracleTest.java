@@ -1,3 +1,5 @@
+import java.util.ArrayList;
+import java.util.List;
 import java.util.Random;
 
 /** Promise 13: oracle; and that the tables come to the ways it knows. */
@@ -69,25 +71,27 @@ public final class OracleTest {
     /** In random fields with failures, the tables come to the oracle's sums when all is quiet. */
     private static void tablesComeToIt() {
         Random random = new Random(11);
-        for (int n = 0; n < 25; n++) {
+        for (int n = 0; n < 60; n++) {
             Probe p = new Probe();
-            int links = 2 + random.nextInt(4);
+            int links = 2 + random.nextInt(3);
             int routers = 2 + random.nextInt(5);
+            List<String> lines = new ArrayList<>();
             for (int l = 0; l < links; l++) {
-                p.setUp("link l" + l + " " + (1 + random.nextInt(5)) + " jitter " + random.nextInt(5) + " mtu "
+                lines.add("link l" + l + " " + (1 + random.nextInt(5)) + " jitter " + random.nextInt(5) + " mtu "
                         + (100 + random.nextInt(400)));
             }
             for (int r = 0; r < routers; r++) {
-                p.setUp("router r" + r, "timers r" + r + " 10 60 40", "static r" + r + " 20." + r + ".0.0/16 1",
-                        "static r" + r + " 20:" + r + "::/32 2");
+                lines.addAll(List.of("router r" + r, "timers r" + r + " 10 60 40", "static r" + r + " 20." + r + ".0.0/16 1",
+                        "static r" + r + " 20:" + r + "::/32 2"));
                 for (int l = 0; l < links; l++) {
                     if (random.nextInt(3) > 0) {
-                        p.read("join r" + r + " l" + l + " 10.0." + l + "." + (r + 1) + "/24 cost " + (1 + random.nextInt(4))
-                                + " md5 1 w" + l);
-                        p.read("join r" + r + " l" + l + " fd00:" + l + "::" + (r + 1) + "/64");
+                        lines.add("join r" + r + " l" + l + " 10.0." + l + "." + (r + 1) + "/24 cost "
+                                + (1 + random.nextInt(4)) + " md5 1 w" + l);
+                        lines.add("join r" + r + " l" + l + " fd00:" + l + "::" + (r + 1) + "/64");
                     }
                 }
             }
+            p.setUp(lines.toArray(new String[0]));
             for (int round = 0; round < 4; round++) {
                 p.field.link(random.nextInt(links), random.nextBoolean());
                 p.field.run(random.nextInt(routers), random.nextInt(3) > 0);
@@ -95,15 +99,14 @@ public final class OracleTest {
                 p.field.ticks(random.nextInt(100));
             }
             p.field.ticks(600);
-            for (int r = 0; r < routers; r++) {
-                for (int to = 0; to < routers; to++) {
-                    compare(p, r, "20." + to + ".1.1");
-                    compare(p, r, "20:" + to + "::1");
-                }
-                for (int l = 0; l < links; l++) {
-                    compare(p, r, "10.0." + l + ".200");
-                    compare(p, r, "fd00:" + l + "::200");
-                }
+            for (int i = 0; i < 10; i++) {
+                int r = random.nextInt(routers);
+                int to = random.nextInt(routers);
+                int l = random.nextInt(links);
+                compare(p, r, "20." + to + ".1.1");
+                compare(p, r, "20:" + to + "::1");
+                compare(p, r, "10.0." + l + ".200");
+                compare(p, r, "fd00:" + l + "::200");
             }
         }
     }

@@ -4,9 +4,10 @@ import java.util.NoSuchElementException;
 
 /** A field under test: feeds texts and bytes, and says every answer that is not the one due. */
 final class Probe {
+    private static final int TAPE_ROOM = 4096;
     private static int wrong = 0;
 
-    final RoutingField field = new RoutingField();
+    final Field field = new Field();
 
     static void due(String what, Object want, Object got) {
         if (!want.equals(got)) {
@@ -42,12 +43,29 @@ final class Probe {
         return field.read();
     }
 
-    /** Lines that must all be done. */
+    /** Lines that must all be done; they are read together, as far as the tape has room. */
     void setUp(String... lines) {
-        for (String line : lines) {
-            int answer = read(line);
-            due(line + " (fault " + field.fault() + ")", 1, answer);
+        int from = 0;
+        while (from < lines.length) {
+            StringBuilder text = new StringBuilder();
+            int to = from;
+            while (to < lines.length && text.length() + lines[to].length() < TAPE_ROOM - 20) {
+                text.append(lines[to]).append('\n');
+                to++;
+            }
+            int answer = read(text.toString());
+            due("lines of " + text + "fault " + field.fault(), to - from, answer);
+            from = to;
         }
+    }
+
+    /** Lines made of a text with %d in it, of the numbers from 0 on. */
+    void setUpMany(int n, String line) {
+        String[] lines = new String[n];
+        for (int i = 0; i < n; i++) {
+            lines[i] = line.replace("%d", String.valueOf(i));
+        }
+        setUp(lines);
     }
 
     void fault(String line, int want) {

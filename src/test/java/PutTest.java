@@ -139,34 +139,36 @@ public final class PutTest {
         Probe.due("w stands still", came[3], p.field.count(3, 0));
     }
 
+    /** Router x tells 8 datagrams to all and to each of 4 neighbors, each tick from 30 to 35. */
     private static void manyOnTheirWay() {
         Probe p = new Probe();
-        p.setUp("link a 5", "link b 5", "router x", "join x a 10.0.0.1/24");
-        p.field.ticks(5);
-        for (int i = 0; i < 256; i++) {
-            p.feed(Probe.unhex(TWO));
-            p.field.put(i % 2, 4, 520, 255);
+        p.setUp("link a 5 mtu 84", "link b 5", "router x", "timers x 1 180 120", "join x a 10.0.0.1/24",
+                "neighbor x a 10.0.0.2", "neighbor x a 10.0.0.3", "neighbor x a 10.0.0.4", "neighbor x a 10.0.0.5",
+                "router y");
+        p.setUpMany(32, "static x 11.%d.0.0/16 1");
+        p.field.ticks(34);
+        p.setUp("timers x 1000 180 120");
+        p.field.ticks(1);
+        Probe.due("those of 31 to 35", 200, p.field.flying());
+        for (int i = 0; i < 56; i++) {
+            Probe.due("flying", 200 + i, p.field.flying());
+            Probe.due("put", true, p.put(1, 4, 520, 255, TWO + "aa"));
         }
-        Probe.due("256 are on their way", 256, p.field.flying());
-        Probe.due("one more is lost", true, p.put(0, 4, 520, 255, TWO + "aa"));
+        Probe.due("256 on all links", 256, p.field.flying());
+        Probe.due("one more is lost, which is true as well", true, p.put(1, 4, 520, 255, TWO + "bb"));
         Probe.due("still 256", 256, p.field.flying());
-        Probe.due("it is seen", "aa", p.seen(0));
-        p.field.lose(0, 1);
-        p.setUp("static x 10.5.0.0/16 1");
-        int sent = p.field.count(0, 5);
-        int came = p.field.count(0, 0);
-        p.field.ticks(2);
-        Probe.due("its trigger goes and is lost", sent + 1, p.field.count(0, 5));
-        Probe.due("256 as before", 256, p.field.flying());
-        p.field.ticks(3);
-        Probe.due("all came but those", 0, p.field.flying());
-        Probe.due("128 to x", came + 128, p.field.count(0, 0));
-        p.setUp("static x 10.5.0.0/16 2");
-        p.field.ticks(4);
-        Probe.due("it was none of those told to be lost: this one is", 0, p.field.flying());
-        p.setUp("static x 10.5.0.0/16 3");
-        p.field.ticks(4);
-        Probe.due("and this one is not", 1, p.field.flying());
+        Probe.due("it is seen", "bb", p.seen(1));
+        p.field.lose(1, 1);
+        p.setUp("join y b 10.0.1.1/24");
+        Probe.due("a request goes", 1, p.field.count(1, 5));
+        Probe.due("and is lost", 256, p.field.flying());
+        p.field.ticks(5);
+        Probe.due("all came", 0, p.field.flying());
+        Probe.due("those put came to y", 56, p.field.count(1, 0));
+        p.setUp("join y b fd00::1/64");
+        Probe.due("that was none of those told to be lost: this one is", 0, p.field.flying());
+        p.field.run(1, false);
+        Probe.due("and these two are not", 2, p.field.flying());
     }
 
     private static void counts() {
