@@ -42,18 +42,28 @@ public final class TableEdgesTest {
         return "10.0.0.0/24 -\n" + of11;
     }
 
+    /** How many ticks are left to 11.0.0.0/8. */
+    private static String left(Probe p) {
+        for (String line : p.show(0, 3).split("\n")) {
+            if (line.startsWith("11.0.0.0/8 ")) {
+                return line.split(" ")[1];
+            }
+        }
+        return "none";
+    }
+
     /** A learned route dies when TIMEOUT ticks have passed since it was set. */
     private static void timeout(int n) {
         Probe p = made("timers x 1000 " + n + " 1000");
         hear(p, "10.0.0.2", 1);
-        Probe.due(n + " are left", true, p.show(0, 3).startsWith(times("11.0.0.0/8 " + n)));
+        Probe.due(n + " are left", String.valueOf(n), left(p));
         p.field.ticks(n - 1);
         Probe.due("it lives at " + (n - 1), "11.0.0.0/8 2 via 10.0.0.2 a", p.way(0, "11.0.0.1"));
-        Probe.due("one is left", true, p.show(0, 3).startsWith(times("11.0.0.0/8 1")));
+        Probe.due("one is left", "1", left(p));
         int changes = p.field.count(0, 7);
         p.field.ticks(1);
         Probe.due("it is dying at " + n, "NONE", p.way(0, "11.0.0.1"));
-        Probe.due("and there", true, p.show(0, 3).startsWith(times("11.0.0.0/8 1000")));
+        Probe.due("and there", "1000", left(p));
         Probe.due("which is a change", changes + 1, p.field.count(0, 7));
     }
 
@@ -65,7 +75,7 @@ public final class TableEdgesTest {
         Probe.due(n + " are left", times("11.0.0.0/8 " + n + " changed\n"), p.show(0, 3));
         p.field.ticks(n - 1);
         Probe.due("it is there at " + (n - 1), 2, p.field.routes(0));
-        Probe.due("one is left", true, p.show(0, 3).startsWith(times("11.0.0.0/8 1")));
+        Probe.due("one is left", "1", left(p));
         int changes = p.field.count(0, 7);
         p.field.ticks(1);
         Probe.due("it has gone at " + n, "10.0.0.0/24 -\n", p.show(0, 3));
@@ -153,12 +163,12 @@ public final class TableEdgesTest {
         p.setUp("timers x 1000 5 3");
         Probe.due("50 as before", times("11.0.0.0/8 50 changed\n"), p.show(0, 3));
         hear(p, "10.0.0.2", 1);
-        Probe.due("a new timeout", true, p.show(0, 3).startsWith(times("11.0.0.0/8 5")));
+        Probe.due("a new timeout", "5", left(p));
         p.setUp("timers x 1000 500 4");
         p.field.ticks(4);
-        Probe.due("it keeps it", true, p.show(0, 3).startsWith(times("11.0.0.0/8 1")));
+        Probe.due("it keeps it", "1", left(p));
         p.field.ticks(1);
-        Probe.due("and a new garbage", true, p.show(0, 3).startsWith(times("11.0.0.0/8 4")));
+        Probe.due("and a new garbage", "4", left(p));
     }
 
     /** The update time of a new router, and of one that starts, is UPDATE later. */
