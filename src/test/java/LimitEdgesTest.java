@@ -6,6 +6,7 @@ public final class LimitEdgesTest {
         interfaces();
         keys();
         keysOfJoins();
+        timesOfJoins();
         passwordsAndChains();
         statics();
         filters();
@@ -93,6 +94,17 @@ public final class LimitEdgesTest {
                 Probe.due("nothing is done by " + options[i], before, p.show(0, 1) + p.config());
             }
         }
+    }
+
+    /** Md5 and sha of a join are as by the line key with 0 and 99999, also in the place of one with this N. */
+    private static void timesOfJoins() {
+        Probe p = made();
+        p.setUp("key x a 7 md5 w 5 9", "key x a 8 sha w 6 10", "join x a fd00::1/64 sha 7 v");
+        Probe.due("in the place of 7", true, p.config().contains("key x a 7 sha v 0 99999\nkey x a 8 sha w 6 10\njoin x b"));
+        p.setUp("key x b 1 sha w 5 9", "nokey x b", "join x b fd01::1/64 md5 2 v");
+        Probe.due("behind nokey", true, p.config().contains("key x b 2 md5 v 0 99999\n"));
+        p.setUp("key y a 1 sha w 5 9", "key y a 2 sha w 6 9", "join y a fd00::2/64 password q md5 3 v");
+        Probe.due("behind a password", true, p.config().contains("join y a fd00::2/64\nkey y a 3 md5 v 0 99999\n"));
     }
 
     /** A password takes the place of the chain, a key of a chain that of the password. */

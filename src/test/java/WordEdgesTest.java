@@ -392,7 +392,7 @@ public final class WordEdgesTest {
             at("static x " + four(length, true) + "/" + length + " 1", length == 32 ? 0 : 5);
             at("join y a " + four(length, true) + "/" + length, 0);
         }
-        for (int length = 0; length <= 128; length += length > 60 && length < 70 ? 1 : 4) {
+        for (int length = 0; length <= 128; length++) {
             at("static x " + six(length, false) + "/" + length + " 1", 0);
             at("static x " + six(length, true) + "/" + length + " 1", length == 128 ? 0 : 5);
             at("join y a " + six(length, true) + "/" + length, 0);
