@@ -5,6 +5,7 @@ public final class HearEdgesTest {
 
     public static void main(String[] args) {
         sources();
+        networksOfTwoLengths();
         sizes();
         heads();
         ports();
@@ -76,6 +77,23 @@ public final class HearEdgesTest {
         source("fd00::1/127", "fd00::", true);
         source("fd00::1/127", "fd00::2", false);
         source("fd00::1/128", "fd00::", false);
+    }
+
+    /** The network is that of the hearer's address, whatever length the sender's has. */
+    private static void networksOfTwoLengths() {
+        for (int family = 4; family <= 6; family += 2) {
+            Probe p = new Probe();
+            p.setUp("link a 1", "router x", "router y", "join x a " + (family == 4 ? "10.0.0.1/24" : "fd00::1/64"),
+                    "join y a " + (family == 4 ? "10.0.0.2/16" : "fd00::2/32"), "static x 11.0.0.0/8 1", "static x 11::/16 1",
+                    "static y 12.0.0.0/8 1", "static y 12::/16 1");
+            p.field.ticks(5);
+            Probe.due("no bad source for x", 0, p.field.count(0, 1));
+            Probe.due("nor for y", 0, p.field.count(1, 1));
+            Probe.due("x has heard y", family == 4 ? "12.0.0.0/8 2 via 10.0.0.2 a" : "12::/16 2 via fd00::2 a",
+                    p.way(0, family == 4 ? "12.0.0.1" : "12::1"));
+            Probe.due("y has heard x", family == 4 ? "11.0.0.0/8 2 via 10.0.0.1 a" : "11::/16 2 via fd00::1 a",
+                    p.way(1, family == 4 ? "11.0.0.1" : "11::1"));
+        }
     }
 
     /** What each count from 1 on is, but those of what x sends; one datagram is put. */

@@ -11,6 +11,7 @@ public final class KeyEdgesTest {
         numbersGoOn();
         numbersHeard();
         numbersOfSourcesAndInterfaces();
+        numbersOfLikeSources();
         mostEntries();
         sizesTold();
         endsOfSha();
@@ -192,6 +193,22 @@ public final class KeyEdgesTest {
         int bad = p.field.count(0, 3);
         hear(p, "10.0.0.3", Wire.sha(Wire.RESPONSE_4, 2, "v", 19, ENTRY));
         Probe.due("whatever the key", bad + 1, p.field.count(0, 3));
+    }
+
+    /** Sources that differ in their first or their last bit alone. */
+    private static void numbersOfLikeSources() {
+        Probe p = new Probe();
+        p.setUp("link a 1", "router x", "join x a 10.0.0.1/0 md5 1 w");
+        number(p, "10.0.0.2", 9, true);
+        number(p, "138.0.0.2", 8, true);
+        number(p, "10.0.0.3", 7, true);
+        number(p, "0.0.0.0", 0, true);
+        number(p, "10.0.0.2", 8, false);
+        number(p, "138.0.0.2", 7, false);
+        number(p, "10.0.0.3", 6, false);
+        number(p, "0.0.0.0", 0, true);
+        number(p, "0.0.0.0", 1, true);
+        number(p, "0.0.0.0", 0, false);
     }
 
     /** N from 1 to 28, keys among them; key entry and end are no entries. */

@@ -6,6 +6,7 @@ public final class TableEdgesTest {
             garbage(n);
             update(n);
         }
+        allInOneTick();
         heardAgain();
         backBeforeItGoes();
         dyingAgain();
@@ -95,6 +96,33 @@ public final class TableEdgesTest {
         Probe.due("at " + (30 + n), sent + 2, p.field.count(0, 5));
         p.field.ticks(n);
         Probe.due("at " + (30 + 2 * n), sent + 3, p.field.count(0, 5));
+    }
+
+    /** Its routes in order die by timeout, and go by garbage: all whose time it is, in one tick. */
+    private static void allInOneTick() {
+        Probe p = made("timers x 1000 20 10");
+        StringBuilder entries = new StringBuilder();
+        for (int i = 0; i < 5; i++) {
+            entries.append(Wire.entry("11." + i + ".0.0/16", 0, 1));
+        }
+        p.put(0, 4, 520, 255, TWO + Wire.RESPONSE_4 + entries);
+        p.field.ticks(1);
+        Probe.due("five came", 6, p.field.routes(0));
+        p.put(0, 4, 520, 255, TWO + Wire.RESPONSE_4 + Wire.entry("11.2.0.0/16", 0, 1));
+        p.field.ticks(19);
+        int changes = p.field.count(0, 7);
+        p.field.ticks(1);
+        Probe.due("four die in one tick", changes + 4, p.field.count(0, 7));
+        Probe.due("times", "10.0.0.0/24 -\n11.0.0.0/16 10 changed\n11.1.0.0/16 10 changed\n11.2.0.0/16 1\n"
+                + "11.3.0.0/16 10 changed\n11.4.0.0/16 10 changed\n", p.show(0, 3));
+        p.field.ticks(1);
+        Probe.due("the fifth dies", changes + 5, p.field.count(0, 7));
+        p.field.ticks(8);
+        Probe.due("all are there", 6, p.field.routes(0));
+        p.field.ticks(1);
+        Probe.due("four go in one tick", 2, p.field.routes(0));
+        p.field.ticks(1);
+        Probe.due("then the fifth", 1, p.field.routes(0));
     }
 
     /** Since it was set or heard again. */

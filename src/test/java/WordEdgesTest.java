@@ -76,8 +76,10 @@ public final class WordEdgesTest {
         at(line.replace("%", most + "x"), 4);
         at(line.replace("%", "+" + most), 4);
         at(line.replace("%", most + "."), 4);
-        at(line.replace("%", "/"), 4);
-        at(line.replace("%", ":"), 4);
+        // The bytes beside the digits.
+        for (String one : new String[] {"/", ":", "1/", "1:", "0/", "0:", "/1", ":1"}) {
+            at(line.replace("%", one), 4);
+        }
     }
 
     private static void numbers() {
